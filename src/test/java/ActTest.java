@@ -338,7 +338,13 @@ public final class ActTest {
         x.days(5);
         Tester.due("another image", x.image(), 7);
         x.days(1);
+        for (int i = 0; i < 100; i++) {
+            x.see(i % 3);
+            x.days(1);
+        }
         Tester.due("is the one", x.back(), 7);
+        Tester.due("its latest", x.log(0, 0), 0);
+        Tester.due("no eighth", x.log(7, 0), -1);
         Tester.due("its log", x.log(4, 1), 4);
     }
 }

@@ -103,6 +103,8 @@ public final class KnockTest {
         Tester.due("a fifth", x.escape(16, 0), -1);
         Tester.due("-1", x.escape(-1, 0), -1);
         Tester.due("no such event", x.escape(1, 1), -1);
+        Tester.due("a fifth beside others", x.escape(17, 0), -1);
+        Tester.due("far beyond", x.escape(Integer.MAX_VALUE, 0), -1);
         x.move(0, 3);
         Tester.due("3 sits in 0 now", x.escape(10, 0), 0);
         OneWindow y = Tester.fort("sw1l9;ct2;ct3;cx0;vn1");

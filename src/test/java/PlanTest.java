@@ -45,6 +45,9 @@ public final class PlanTest {
         Tester.due("apart: acts", x.count(15), 0);
         Tester.due("apart: seen", x.count(8), 0);
         Tester.due("apart: teller", x.count(7), 0);
+        OneWindow y = Tester.fort("sw1b2;cb6;cb5;cb4;v;v");
+        Tester.text(y, Tester.PLAN, "s0;m12;t");
+        Tester.due("prisoner 2 at the window in cell 1", y.run(0, 1), 8);
         x.see(0);
         Tester.due("seen already", x.run(0, 0), 0);
         Tester.due("bread now", x.run(0, 1), 6);

@@ -180,6 +180,8 @@ public final class StandTest {
         Tester.due("10", x.guards(10), false);
         Tester.due("-1", x.guards(-1), false);
         Tester.due("count", x.count(12), 9);
+        Tester.due("0 again", x.guards(0), true);
+        Tester.due("count 0", x.count(12), 0);
     }
 
     private static void log() {

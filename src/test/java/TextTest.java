@@ -48,6 +48,8 @@ public final class TextTest {
         Tester.due("241 are too many", x.feed(0x01000000, 0, 0, 0, 2), Tester.NONE);
         Tester.due("as it was", x.count(4), 239);
         Tester.due("240", x.feed(0, 0, 0, 0, 0x00000200), 240);
+        Tester.due("one more in the third", x.feed(0, 0, 1, 0, 0), Tester.NONE);
+        Tester.due("one more in the fourth", x.feed(0, 0, 0, 1, 0), Tester.NONE);
         Tester.due("no byte more", x.feed(0, 0, 0, 0, 0), 240);
         Tester.due("241", x.feed(0, 1, 0, 0, 0), Tester.NONE);
         Tester.due("a byte of 255 is wrong", x.fault(0), 0);
