@@ -92,7 +92,6 @@ public final class OneWindow {
     private static final int END_OF_TAPE = -1;
 
     private final Tape tape;
-    private final Cursor cursor;
     private Fort fort;
     private Fort draft;
     /** One more than can be told: the first that is free is where the next text is read. */
@@ -116,7 +115,6 @@ public final class OneWindow {
 
     public OneWindow() {
         tape = new Tape();
-        cursor = new Cursor(tape);
         fort = new Fort();
         draft = new Fort();
         laws = new Law[MOST_TEXTS + 1];
@@ -190,15 +188,15 @@ public final class OneWindow {
     }
 
     private int faultOfTape(int sort) {
-        cursor.begin();
+        tape.begin();
         if (sort == FORT) {
-            draft.read(cursor);
+            draft.read(tape);
         } else if (sort == LAW) {
-            laws[lawCount].read(cursor);
+            laws[lawCount].read(tape);
         } else {
-            plans[planCount].read(cursor);
+            plans[planCount].read(tape);
         }
-        return cursor.wrong;
+        return tape.wrong;
     }
 
     private int openFort() {
@@ -208,6 +206,7 @@ public final class OneWindow {
         now.open(fort);
         acts.forget();
         witnesses.forget();
+        codebook.forget();
         hasImage = false;
         return fort.cells;
     }
@@ -952,10 +951,15 @@ public final class OneWindow {
 
     // ---- the classes inside
 
-    /** The bytes that were fed. */
+    /**
+     * The bytes that were fed, and the place that a reader has come to. Behind the first fault a reader finds nothing
+     * more, so it comes to its end by itself.
+     */
     private static final class Tape {
         private final int[] bytes = new int[MOST_BYTES];
         private int length;
+        private int place;
+        private int wrong;
 
         static int bytesIn(int number) {
             int found = 0;
@@ -975,40 +979,25 @@ public final class OneWindow {
             }
         }
 
-        int byteAt(int place) {
-            return place >= 0 && place < length ? bytes[place] : END_OF_TAPE;
-        }
-    }
-
-    /** A place on the tape. Behind the first fault it finds nothing more, so a reader comes to its end by itself. */
-    private static final class Cursor {
-        private final Tape tape;
-        private int place;
-        private int wrong;
-
-        Cursor(Tape tape) {
-            this.tape = tape;
-            wrong = NONE;
-        }
-
         void begin() {
             place = 0;
             wrong = NONE;
         }
 
+        private int here() {
+            return wrong == NONE && place < length ? bytes[place] : END_OF_TAPE;
+        }
+
         /** The next sign behind blanks. */
         int next() {
-            if (wrong != NONE) {
-                return END_OF_TAPE;
-            }
-            while (place < tape.length && tape.byteAt(place) == ' ') {
+            while (place < length && bytes[place] == ' ') {
                 place++;
             }
-            return tape.byteAt(place);
+            return here();
         }
 
         void pass() {
-            if (wrong == NONE && place < tape.length) {
+            if (place < length) {
                 place++;
             }
         }
@@ -1039,7 +1028,7 @@ public final class OneWindow {
             failAt(place);
         }
 
-        void failAt(int where) {
+        private void failAt(int where) {
             if (wrong == NONE) {
                 wrong = where;
             }
@@ -1052,25 +1041,26 @@ public final class OneWindow {
         }
 
         int digit() {
-            if (!isDigit(next())) {
+            int sign = next();
+            if (!isDigit(sign)) {
                 failAt(place);
                 return 0;
             }
-            int value = tape.byteAt(place) - '0';
             pass();
-            return value;
+            return sign - '0';
         }
 
         int number(int digits, int lowest, int highest) {
-            next();
+            int sign = next();
             int value = 0;
             int read = 0;
-            while (read < digits && wrong == NONE && isDigit(tape.byteAt(place))) {
-                value = 10 * value + tape.byteAt(place) - '0';
-                pass();
+            while (read < digits && isDigit(sign)) {
+                value = 10 * value + sign - '0';
                 read++;
+                pass();
+                sign = here();
             }
-            if (read == 0 || isDigit(tape.byteAt(place))) {
+            if (read == 0 || isDigit(sign)) {
                 failAt(place);
             } else if (value < lowest || value > highest) {
                 failAt(place - 1);
@@ -1092,61 +1082,61 @@ public final class OneWindow {
         private int events;
         private boolean ruled;
 
-        void read(Cursor cursor) {
+        void read(Tape tape) {
             cells = 0;
             events = 0;
             ruled = false;
             System.arraycopy(RULE_USUAL, 0, rules, 0, RULE_ITEMS);
             for (int clause = 0; clause < MOST_BYTES; clause++) {
-                readClause(cursor);
-                if (!cursor.takes(';')) {
+                readClause(tape);
+                if (!tape.takes(';')) {
                     break;
                 }
             }
-            cursor.expectEnd();
+            tape.expectEnd();
             if (cells < 2 || events < 1 || window() >= cells) {
-                cursor.fail();
+                tape.fail();
             }
         }
 
-        private void readClause(Cursor cursor) {
-            int letter = cursor.next();
+        private void readClause(Tape tape) {
+            int letter = tape.next();
             if (letter == 's' && !ruled) {
                 ruled = true;
-                cursor.pass();
-                readItems(cursor, RULE_LETTERS, RULE_LEAST, RULE_MOST, rules, 0);
+                tape.pass();
+                readItems(tape, RULE_LETTERS, RULE_LEAST, RULE_MOST, rules, 0);
             } else if (letter == 'c' && cells < MOST_CELLS) {
                 int at = cells * CELL_ITEMS;
                 System.arraycopy(CELL_USUAL, 0, cellItems, at, CELL_ITEMS);
                 cells++;
-                cursor.pass();
-                readItems(cursor, CELL_LETTERS, CELL_LEAST, CELL_MOST, cellItems, at);
+                tape.pass();
+                readItems(tape, CELL_LETTERS, CELL_LEAST, CELL_MOST, cellItems, at);
             } else if (letter == 'v' && events < MOST_EVENTS) {
                 int at = events * EVENT_ITEMS;
                 System.arraycopy(EVENT_USUAL, 0, eventItems, at, EVENT_ITEMS);
                 events++;
-                cursor.pass();
-                readItems(cursor, EVENT_LETTERS, EVENT_LEAST, EVENT_MOST, eventItems, at);
+                tape.pass();
+                readItems(tape, EVENT_LETTERS, EVENT_LEAST, EVENT_MOST, eventItems, at);
             } else {
-                cursor.fail();
+                tape.fail();
             }
         }
 
         /** Stops at what is no letter of the clause; a ; or the end must stand there, as the caller asks. */
-        private void readItems(Cursor cursor, String letters, int[] lowest, int[] highest, int[] items, int at) {
+        private void readItems(Tape tape, String letters, int[] lowest, int[] highest, int[] items, int at) {
             int had = 0;
             for (int turn = 0; turn <= letters.length(); turn++) {
-                int item = cursor.letterOf(letters);
+                int item = tape.letterOf(letters);
                 if (item == NONE) {
                     return;
                 }
                 if ((had >> item & 1) == 1) {
-                    cursor.fail();
+                    tape.fail();
                     return;
                 }
                 had |= 1 << item;
-                cursor.pass();
-                items[at + item] = cursor.number(2, lowest[item], highest[item]);
+                tape.pass();
+                items[at + item] = tape.number(2, lowest[item], highest[item]);
             }
         }
 
@@ -1211,132 +1201,130 @@ public final class OneWindow {
         private final int[] stack = new int[MOST_STACKED];
         private int size;
 
-        void read(Cursor cursor) {
+        void read(Tape tape) {
             size = 0;
             for (int clause = 0; clause < MOST_BYTES; clause++) {
-                readClause(cursor);
+                readClause(tape);
                 put(CLAUSE_ENDS);
-                if (!cursor.takes(';')) {
+                if (!tape.takes(';')) {
                     break;
                 }
             }
-            cursor.expectEnd();
+            tape.expectEnd();
         }
 
-        private void readClause(Cursor cursor) {
-            cursor.expect('y');
-            cursor.expect(':');
-            int sign = cursor.next();
+        private void readClause(Tape tape) {
+            tape.expect('y');
+            tape.expect(':');
+            int sign = tape.next();
             boolean bySum = sign != '!' && sign != '(';
             if (bySum) {
-                readSum(cursor, 0);
-                if (!isComparison(cursor.next())) {
+                readSum(tape, 0);
+                if (!isComparison(tape.next())) {
                     return;
                 }
             }
-            readCondition(cursor, 0, bySum);
-            cursor.expect('?');
+            readCondition(tape, 0, bySum);
+            tape.expect('?');
             put(ONLY_IF);
-            readSum(cursor, 0);
+            readSum(tape, 0);
         }
 
         /** With begun the first sum of its first unit has been read already. */
-        private void readCondition(Cursor cursor, int nested, boolean begun) {
-            readTruth(cursor, nested, begun);
-            for (int turn = 0; turn < MOST_BYTES && cursor.takes('|'); turn++) {
-                readTruth(cursor, nested, false);
+        private void readCondition(Tape tape, int nested, boolean begun) {
+            readTruth(tape, nested, begun);
+            for (int turn = 0; turn < MOST_BYTES && tape.takes('|'); turn++) {
+                readTruth(tape, nested, false);
                 put(-'|');
             }
         }
 
-        private void readTruth(Cursor cursor, int nested, boolean begun) {
-            readUnit(cursor, nested, begun);
-            for (int turn = 0; turn < MOST_BYTES && cursor.takes('&'); turn++) {
-                readUnit(cursor, nested, false);
+        private void readTruth(Tape tape, int nested, boolean begun) {
+            readUnit(tape, nested, begun);
+            for (int turn = 0; turn < MOST_BYTES && tape.takes('&'); turn++) {
+                readUnit(tape, nested, false);
                 put(-'&');
             }
         }
 
-        private void readUnit(Cursor cursor, int nested, boolean begun) {
-            int sign = cursor.next();
-            if (begun) {
-                readComparison(cursor, nested);
-            } else if (sign == '!') {
-                if (enters(cursor, nested)) {
-                    readUnit(cursor, nested + 1, false);
-                    put(NOT);
-                }
-            } else if (sign == '(') {
-                if (enters(cursor, nested)) {
-                    readCondition(cursor, nested + 1, false);
-                    cursor.expect(')');
-                }
-            } else {
-                readSum(cursor, nested);
-                readComparison(cursor, nested);
-            }
-        }
-
-        private void readComparison(Cursor cursor, int nested) {
-            int sign = cursor.next();
-            if (!isComparison(sign)) {
-                cursor.fail();
+        private void readUnit(Tape tape, int nested, boolean begun) {
+            int sign = tape.next();
+            boolean opens = !begun && (sign == '!' || sign == '(');
+            if (opens && !enters(tape, nested)) {
                 return;
             }
-            cursor.pass();
-            readSum(cursor, nested);
-            put(-sign);
+            if (opens && sign == '!') {
+                readUnit(tape, nested + 1, false);
+                put(NOT);
+                return;
+            }
+            if (opens) {
+                readCondition(tape, nested + 1, false);
+                tape.expect(')');
+                return;
+            }
+            if (!begun) {
+                readSum(tape, nested);
+            }
+            int comparison = tape.next();
+            if (!isComparison(comparison)) {
+                tape.fail();
+                return;
+            }
+            tape.pass();
+            readSum(tape, nested);
+            put(-comparison);
         }
 
-        private void readSum(Cursor cursor, int nested) {
-            readTerm(cursor, nested);
+        private void readSum(Tape tape, int nested) {
+            readTerm(tape, nested);
             for (int turn = 0; turn < MOST_BYTES; turn++) {
-                int sign = cursor.next();
+                int sign = tape.next();
                 if (sign != '+' && sign != '-') {
                     return;
                 }
-                cursor.pass();
-                readTerm(cursor, nested);
+                tape.pass();
+                readTerm(tape, nested);
                 put(-sign);
             }
         }
 
-        private void readTerm(Cursor cursor, int nested) {
-            readAtom(cursor, nested);
+        private void readTerm(Tape tape, int nested) {
+            readAtom(tape, nested);
             for (int turn = 0; turn < MOST_BYTES; turn++) {
-                int sign = cursor.next();
+                int sign = tape.next();
                 if (sign != '*' && sign != '/') {
                     return;
                 }
-                cursor.pass();
-                readAtom(cursor, nested);
+                tape.pass();
+                readAtom(tape, nested);
                 put(-sign);
             }
         }
 
-        private void readAtom(Cursor cursor, int nested) {
-            int sign = cursor.next();
-            int letter = cursor.letterOf(LAW_LETTERS);
-            if (Cursor.isDigit(sign)) {
-                put(cursor.number(4, 0, MOST_NUMBER));
+        private void readAtom(Tape tape, int nested) {
+            int sign = tape.next();
+            int letter = tape.letterOf(LAW_LETTERS);
+            if (Tape.isDigit(sign)) {
+                put(tape.number(4, 0, MOST_NUMBER));
             } else if (letter != NONE) {
-                cursor.pass();
+                tape.pass();
                 put(-1 - letter);
             } else if (sign != '[') {
-                cursor.fail();
-            } else if (enters(cursor, nested)) {
-                readSum(cursor, nested + 1);
-                cursor.expect(']');
+                tape.fail();
+            } else if (enters(tape, nested)) {
+                readSum(tape, nested + 1);
+                tape.expect(']');
             }
         }
 
         /** Passes one of ( [ ! unless six are open. */
-        private static boolean enters(Cursor cursor, int nested) {
+        private static boolean enters(Tape tape, int nested) {
             if (nested >= MOST_NESTED) {
-                cursor.fail();
+                tape.fail();
                 return false;
             }
-            cursor.pass();
+            tape.pass();
             return true;
         }
 
@@ -1388,21 +1376,19 @@ public final class OneWindow {
             return i;
         }
 
-        private static int joined(int sign, int left, int right) {
+        private static int joined(int sign, long left, long right) {
+            long value;
             switch (sign) {
-                case -'+': return held((long) left + right);
-                case -'-': return held((long) left - right);
-                case -'*': return held((long) left * right);
-                case -'/': return right == 0 ? 0 : left / right;
-                case -'=': return left == right ? 1 : 0;
-                case -'<': return left < right ? 1 : 0;
-                case -'>': return left > right ? 1 : 0;
-                case -'&': return left & right;
-                default: return left | right;
+                case -'+': value = left + right; break;
+                case -'-': value = left - right; break;
+                case -'*': value = left * right; break;
+                case -'/': value = right == 0 ? 0 : left / right; break;
+                case -'=': value = left == right ? 1 : 0; break;
+                case -'<': value = left < right ? 1 : 0; break;
+                case -'>': value = left > right ? 1 : 0; break;
+                case -'&': value = left & right; break;
+                default: value = left | right;
             }
-        }
-
-        private static int held(long value) {
             return (int) Math.max(-MOST_NUMBER, Math.min(MOST_NUMBER, value));
         }
     }
@@ -1414,28 +1400,28 @@ public final class OneWindow {
         private final int[] parts = new int[MOST_STEPS * PARTS];
         private int steps;
 
-        void read(Cursor cursor) {
+        void read(Tape tape) {
             steps = 0;
             for (int i = 0; i < MOST_STEPS; i++) {
-                readStep(cursor, i * PARTS);
+                readStep(tape, i * PARTS);
                 steps++;
-                if (i + 1 == MOST_STEPS || !cursor.takes(';')) {
+                if (i + 1 == MOST_STEPS || !tape.takes(';')) {
                     break;
                 }
             }
-            cursor.expectEnd();
+            tape.expectEnd();
         }
 
-        private void readStep(Cursor cursor, int at) {
-            int kind = cursor.letterOf(STEP_LETTERS);
+        private void readStep(Tape tape, int at) {
+            int kind = tape.letterOf(STEP_LETTERS);
             if (kind == NONE) {
-                cursor.fail();
+                tape.fail();
                 return;
             }
-            cursor.pass();
+            tape.pass();
             parts[at] = kind;
-            parts[at + 1] = kind == SEE || kind == CHANGE ? cursor.digit() : NONE;
-            parts[at + 2] = kind == CHANGE ? cursor.digit() : NONE;
+            parts[at + 1] = kind == SEE || kind == CHANGE ? tape.digit() : NONE;
+            parts[at + 2] = kind == CHANGE ? tape.digit() : NONE;
         }
 
         int part(int i, int what) {
@@ -1690,11 +1676,20 @@ public final class OneWindow {
     private static final class Codebook {
         private int leastSum;
         private int digits;
+        private boolean known;
 
+        void forget() {
+            known = false;
+        }
+
+        /** Once for a fort, as nothing that it goes by changes. */
         void search(Fort fort) {
-            leastSum = Integer.MAX_VALUE;
-            digits = 0;
-            tryLengths(fort, 0, CODE_ROOM, 0, 0);
+            if (!known) {
+                leastSum = Integer.MAX_VALUE;
+                digits = 0;
+                tryLengths(fort, 0, CODE_ROOM, 0, 0);
+                known = true;
+            }
         }
 
         /** Goes by rising digits and takes only what is less, so of several the least digits stay. */
