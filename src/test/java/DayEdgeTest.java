@@ -18,6 +18,8 @@ public final class DayEdgeTest {
         drawsOfTen();
         goingRound();
         guardsOfTen();
+        mostMeritOfOthers();
+        sevenAndSix();
         imageOfThisFort();
         imageKeepsTheLog();
         countsAtTheirBounds();
@@ -377,6 +379,66 @@ public final class DayEdgeTest {
         Tester.due("with 9 mostly", moves > 25, true);
     }
 
+    /** "the TELLER and who has most MERIT of all others (of several the lowest) change CELLS". */
+    private static void mostMeritOfOthers() {
+        int[][] cases = {{9, 1, 5, 5}, {1, 9, 5, 5}, {5, 9, 5, 1}, {1, 9, 5, 9}, {0, 0, 0, 0}, {0, 9, 0, 1}};
+        int[] moved = {0, 2, 0, 3, 0, 3};
+        for (int i = 0; i < cases.length; i++) {
+            int[] m = cases[i];
+            int moves = 0;
+            for (int seed = 0; seed < 10; seed++) {
+                OneWindow x = Tester.fort("sw1;cm" + m[0] + ";cm" + m[1] + ";cm" + m[2] + ";cm" + m[3] + ";vp0");
+                x.guards(9);
+                x.years(1, seed);
+                if (x.count(7) != 1) {
+                    moves++;
+                    Tester.due("teller of case " + i, x.count(7), moved[i]);
+                    Tester.due("cell of 1 in case " + i, Tester.prisoner(x, 1, 0), moved[i]);
+                }
+            }
+            Tester.due("moved in case " + i, moves > 0, true);
+        }
+    }
+
+    /** The most that a FORT holds, seven and six: nothing of one PRISONER runs into another's, or into what is SEEN. */
+    private static void sevenAndSix() {
+        OneWindow x = Tester.fort("sw3l60b1g99" + Tester.times(";ct1b2", 6) + ";ct1b9" + Tester.times(";vn1", 6));
+        Tester.due("rich", x.rich(), 6);
+        for (int i = 0; i < 7; i++) {
+            Tester.due("mirror", x.mirror(i, 63 - i), true);
+        }
+        Tester.due("rich as before", x.rich(), 6);
+        Tester.due("bread of all", x.count(11), 21);
+        Tester.due("nothing seen", x.count(8), 0);
+        for (int i = 0; i < 7; i++) {
+            Tester.due("bread " + i, Tester.prisoner(x, i, 4), i == 6 ? 9 : 2);
+            Tester.due("nothing known " + i, Tester.prisoner(x, i, 5), 0);
+        }
+        x.see(5);
+        x.see(0);
+        x.see(1);
+        Tester.due("heard by six", x.tell(), 18);
+        Tester.due("learnt", x.count(10), 3);
+        x.see(4);
+        for (int i = 0; i < 7; i++) {
+            Tester.due("mirror " + i + " as it was", Tester.prisoner(x, i, 6), 63 - i);
+            Tester.due("knows " + i, Tester.prisoner(x, i, 5), 35);
+            Tester.due("bread behind it " + i, Tester.prisoner(x, i, 4), i == 3 ? 15 : i == 6 ? 6 : 0);
+        }
+        Tester.due("seen", x.count(8), 51);
+        Tester.due("code", x.code(), 3);
+        x.move(0, 6);
+        x.days(1);
+        Tester.due("nothing seen behind it", x.count(8), 0);
+        for (int i = 0; i < 7; i++) {
+            Tester.due("mirror " + i + " stays", Tester.prisoner(x, i, 6), 63 - i);
+            Tester.due("knows nothing " + i, Tester.prisoner(x, i, 5), 0);
+            Tester.due("sits", x.cell(i, 1), i == 0 ? 6 : i == 6 ? 0 : i);
+        }
+        Tester.due("most", x.most(), 0);
+        Tester.due("heard", x.log(0, 1), 18);
+    }
+
     /** "An IMAGE (instead of the one ahead): the DAY. NONE: no FORT.", "BACK: the DAY. NONE: no IMAGE of this FORT." */
     private static void imageOfThisFort() {
         OneWindow x = new OneWindow();
@@ -393,6 +455,16 @@ public final class DayEdgeTest {
         x.days(1);
         Tester.due("an act", x.undo(), 0);
         Tester.due("back once more", x.back(), 3);
+        Tester.hold(x, "y:1");
+        Tester.text(x, Tester.PLAN, "t");
+        x.guards(5);
+        x.said(0, 0, true);
+        Tester.due("back behind these", x.back(), 3);
+        int[] kept = {1, 1, 0, 5, 1};
+        int[] asked = {2, 3, 5, 12, 13};
+        for (int i = 0; i < asked.length; i++) {
+            Tester.due("no part of an image: count " + asked[i], x.count(asked[i]), kept[i]);
+        }
         Tester.due("no fort by a wrong text", Tester.text(x, Tester.FORT, "c;c"), Tester.NONE);
         Tester.due("the image stays", x.back(), 3);
         Tester.due("another fort", Tester.text(x, Tester.FORT, "c;c;v"), 2);

@@ -142,6 +142,16 @@ public final class StandTest {
         worth("y:t*2-m>11?1;y:2", 1);
         worth("y:t*2-m>12?1;y:2", 2);
         worth("y:t-9<0?5;y:2", 5);
+        worth("y:t<8&n=9?1;y:2", 1);
+        worth("y:n=9&t<8?1;y:2", 1);
+        worth("y:t>6&n=9?1;y:2", 1);
+        worth("y:n=9&t>6?1;y:2", 1);
+        worth("y:!t<8?1;y:2", 2);
+        worth("y:!t>6?1;y:2", 2);
+        worth("y:t<7|n=8?1;y:2", 2);
+        worth("y:t<8|n=8?1;y:2", 1);
+        worth("y:!t<7?1;y:2", 1);
+        worth("y:!t>7?1;y:2", 1);
     }
 
     private static void letters() {

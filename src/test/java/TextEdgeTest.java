@@ -22,6 +22,8 @@ public final class TextEdgeTest {
         digitsOfSteps();
         blanks();
         endsTooEarly();
+        lookedAtAlone();
+        goneWithTheFort();
         Tester.end();
     }
 
@@ -404,5 +406,58 @@ public final class TextEdgeTest {
         for (String text : new String[] {"", "s", "m", "m1", "m 1 ", "t;", "s1;"}) {
             plan(text, text.length());
         }
+    }
+
+    /** "The FAULT of the TAPE as a FORT (0), a LAW (1), a PLAN (2)": looking at a text, ever so often, takes nothing of it. */
+    private static void lookedAtAlone() {
+        OneWindow x = Tester.fort("sl60;c;c;v");
+        Tester.text(x, Tester.PLAN, "t;e");
+        Tester.put(x, "y:t=4?50;y:40");
+        Tester.due("a law", x.fault(1), Tester.NONE);
+        Tester.due("no law was told", x.count(2), 0);
+        Tester.put(x, "y:t=5?30;y:20");
+        Tester.due("another one", x.fault(1), Tester.NONE);
+        Tester.due("it is the first", x.text(1), 0);
+        x.law(0);
+        Tester.due("the one that was told holds", x.far(0, 1), 40);
+        Tester.put(x, "y:59");
+        x.fault(1);
+        Tester.due("the first holds still", x.far(0, 1), 40);
+        Tester.put(x, "s1;s2;s3");
+        x.fault(2);
+        Tester.due("the plan is as it was", x.step(0, 0, 0), 2);
+        Tester.due("of two steps", x.step(0, 2, 0), Tester.HIDDEN);
+        Tester.put(x, "sl9w1;cm7;c;v;v");
+        for (int turn = 0; turn < 3; turn++) {
+            Tester.due("a fort", x.fault(0), Tester.NONE);
+            Tester.due("is not the fort", x.rule(1), 60);
+            Tester.due("nor its events", x.count(1), 1);
+        }
+        Tester.due("now it is", x.text(0), 2);
+        Tester.due("its rule", x.rule(1), 9);
+        Tester.put(x, "sb3;c;c;v");
+        x.fault(0);
+        Tester.due("not the one behind it", x.rule(3), 1);
+        Tester.due("till it is told", x.text(0), 2);
+        Tester.due("loud as usual", x.rule(1), 20);
+        Tester.due("its price", x.rule(3), 3);
+    }
+
+    /** "all that was of another one, SAID, too, is gone but LAWS, which holds, PLANS, GUARDS". */
+    private static void goneWithTheFort() {
+        OneWindow x = Tester.fort("ch10;ch10;vp5;vp2;vp9");
+        Tester.due("codes of the first", x.codes(0), 221);
+        x.said(0, 0, true);
+        x.said(1, 1, false);
+        Tester.due("sure", x.sure(0, 0), 1);
+        Tester.due("never", x.sure(0, 1), 2);
+        Tester.text(x, Tester.FORT, "ch10;ch10;vp9;vp5;vp2");
+        Tester.due("codes of the second", x.codes(0), 122);
+        Tester.due("their sum", x.codes(1), 23);
+        Tester.due("nothing is sure", x.sure(0, 0), 0);
+        Tester.due("nothing is never", x.sure(0, 1), 0);
+        Tester.due("all truths", x.truths(0, -1), 8);
+        Tester.due("as often as it is", x.belief(0), 900000);
+        Tester.due("likewise", x.belief(1), 500000);
     }
 }

@@ -447,6 +447,16 @@ public final class ThoughtEdgeTest {
         Tester.due("both", z.buys(1, 2, 1, 1), 2);
         Tester.due("both buy, no other", z.rests(1, 2, -1), 1);
         Tester.due("11", z.rests(1, 2, 0), 11);
+        z.days(1);
+        Tester.due("nothing is seen on the next day", z.buys(1, 2, 1, 0), 0);
+        Tester.due("all four", z.rests(1, 2, -1), 4);
+        z.see(0);
+        Tester.due("what is left out alone", z.buys(1, 2, 1, 1), 0);
+        z.see(1);
+        Tester.hold(z, "y:m+57");
+        Tester.due("1 hears nothing", z.buys(1, 2, 1, 1), 0);
+        z.move(0, 1);
+        Tester.due("of the teller 1", z.buys(0, 2, 1, 1), 0);
     }
 
     private static OneWindow thinker() {
