@@ -549,7 +549,7 @@ public final class OneWindow {
         }
         knocking.spread(fort, now, lawNow(), event, fort.window());
         int way = side == 0 ? -1 : 1;
-        for (int cell = fort.window() + way; isCell(cell); cell += way) {
+        for (int cell = fort.window() + way; cell >= 0 && cell < fort.cells; cell += way) {
             if (knocking.strength[cell] <= 0) {
                 return cell - way;
             }
